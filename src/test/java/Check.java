@@ -10,6 +10,14 @@ final class Check {
     private Check() {
     }
 
+    static RangingStation withTones(long... wavelengths) {
+        RangingStation x = new RangingStation();
+        for (long wavelength : wavelengths) {
+            x.addTone(wavelength);
+        }
+        return x;
+    }
+
     static void eq(String what, long got, long want) {
         note(got == want, what, Long.toString(got), Long.toString(want));
     }

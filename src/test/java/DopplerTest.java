@@ -22,17 +22,9 @@ final class DopplerTest {
         Check.finish("DopplerTest");
     }
 
-    private static RangingStation withTones(long... wavelengths) {
-        RangingStation x = new RangingStation();
-        for (long wavelength : wavelengths) {
-            x.addTone(wavelength);
-        }
-        return x;
-    }
-
     /** Ranges 10050, 10125, 10200, 10275 and Doppler counts 0, 1, 2, 2 with the wavelength 100, in pass 0. */
     private static RangingStation fourObservations() {
-        RangingStation x = withTones(1000000, 1000);
+        RangingStation x = Check.withTones(1000000, 1000);
         x.setTruth(10050, 75);
         x.beginPass();
         for (int i = 0; i < 4; i++) {
@@ -206,7 +198,7 @@ final class DopplerTest {
     }
 
     private static void smoothedBelowZero() {
-        RangingStation x = withTones(1000000);
+        RangingStation x = Check.withTones(1000000);
         x.setDopplerWavelength(1);
         x.setTruth(0, -1000);
         x.run(1);
@@ -221,7 +213,7 @@ final class DopplerTest {
     }
 
     private static void smoothedLong() {
-        RangingStation x = withTones(1000000000L);
+        RangingStation x = Check.withTones(1000000000L);
         x.setTruth(0, 0);
         x.beginPass();
         for (int i = 0; i < 100; i++) {

@@ -22,17 +22,9 @@ final class LinesAndJoiningTest {
         Check.finish("LinesAndJoiningTest");
     }
 
-    private static RangingStation withTones(long... wavelengths) {
-        RangingStation x = new RangingStation();
-        for (long wavelength : wavelengths) {
-            x.addTone(wavelength);
-        }
-        return x;
-    }
-
     // Promises 48 to 50
     private static void line() {
-        RangingStation x = withTones(1000000);
+        RangingStation x = Check.withTones(1000000);
         x.run(5);
         x.setTruth(10000, 1000);
         x.beginPass();
@@ -59,7 +51,7 @@ final class LinesAndJoiningTest {
     }
 
     private static void lineOfJoinedPass() {
-        RangingStation x = withTones(1000000);
+        RangingStation x = Check.withTones(1000000);
         x.setTruth(0, 300000);
         x.beginPass();
         x.observe();
@@ -80,7 +72,7 @@ final class LinesAndJoiningTest {
     }
 
     private static void lineRefused() {
-        RangingStation x = withTones(1000000);
+        RangingStation x = Check.withTones(1000000);
         Check.fails("48 no pass", INDEX, () -> x.lineRate(0));
         Check.fails("49 no pass", INDEX, () -> x.lineOffset(0));
         Check.fails("50 no observation", INDEX, () -> x.residual(0));
@@ -108,7 +100,7 @@ final class LinesAndJoiningTest {
 
     /** Pass 0 has the ranges -300000 and -250000, one second apart; pass 1 comes 20 seconds later. */
     private static RangingStation twoPasses() {
-        RangingStation x = withTones(1000000);
+        RangingStation x = Check.withTones(1000000);
         x.setTruth(700000, 50000);
         x.beginPass();
         x.observe();
@@ -184,7 +176,7 @@ final class LinesAndJoiningTest {
     }
 
     private static void joinBackwards() {
-        RangingStation x = withTones(1000);
+        RangingStation x = Check.withTones(1000);
         x.setTruth(1000, -10);
         x.beginPass();
         x.observe();
@@ -203,7 +195,7 @@ final class LinesAndJoiningTest {
     }
 
     private static void joinToALateBeginning() {
-        RangingStation x = withTones(1000000);
+        RangingStation x = Check.withTones(1000000);
         x.setTruth(600000, 50000);
         x.beginPass();
         x.addSlip(123);
@@ -246,7 +238,7 @@ final class LinesAndJoiningTest {
     }
 
     private static void joinRefused() {
-        RangingStation x = withTones(1000000);
+        RangingStation x = Check.withTones(1000000);
         Check.fails("51 no passes", INDEX, () -> x.join(0));
         Check.fails("51 no pass 1", INDEX, () -> x.join(1));
         x.beginPass();
@@ -299,7 +291,7 @@ final class LinesAndJoiningTest {
     }
 
     private static void ambiguity() {
-        RangingStation x = withTones(1000000);
+        RangingStation x = Check.withTones(1000000);
         Check.fails("52 no passes", INDEX, () -> x.ambiguity(0));
         x.beginPass();
         Check.eq("52 running", x.ambiguity(0), 0);
@@ -320,7 +312,7 @@ final class LinesAndJoiningTest {
 
     // Promise 53
     private static void longestChain() {
-        RangingStation x = withTones(1000000);
+        RangingStation x = Check.withTones(1000000);
         Check.eq("53 no passes", x.longestChain(), 0);
         x.beginPass();
         Check.eq("53 one without observations", x.longestChain(), 1);
@@ -342,7 +334,7 @@ final class LinesAndJoiningTest {
     }
 
     private static void twentyJoined() {
-        RangingStation x = withTones(1000000);
+        RangingStation x = Check.withTones(1000000);
         passesWithTwoTimes(x, 20);
         for (int i = 1; i < 20; i++) {
             Check.eq("51 standing still", x.join(i), 0);

@@ -23,14 +23,6 @@ final class PassesTest {
         Check.finish("PassesTest");
     }
 
-    private static RangingStation withTones(long... wavelengths) {
-        RangingStation x = new RangingStation();
-        for (long wavelength : wavelengths) {
-            x.addTone(wavelength);
-        }
-        return x;
-    }
-
     // Promises 23 and 27
     private static void beginPass() {
         RangingStation x = new RangingStation();
@@ -47,7 +39,7 @@ final class PassesTest {
     }
 
     private static void twentyPasses() {
-        RangingStation x = withTones(1000);
+        RangingStation x = Check.withTones(1000);
         for (int i = 0; i < 20; i++) {
             Check.eq("23 pass", x.beginPass(), i);
             x.endPass();
@@ -59,7 +51,7 @@ final class PassesTest {
 
     // Promise 24
     private static void endPass() {
-        RangingStation x = withTones(1000);
+        RangingStation x = Check.withTones(1000);
         Check.fails("24 none", STATE, () -> x.endPass());
         x.beginPass();
         Check.eq("24 without observations", x.endPass(), 0);
@@ -76,7 +68,7 @@ final class PassesTest {
 
     // Promise 25
     private static void observe() {
-        RangingStation x = withTones(1000);
+        RangingStation x = Check.withTones(1000);
         Check.fails("25 no pass", STATE, () -> x.observe());
         x.beginPass();
         Check.eq("25 first", x.observe(), 0);
@@ -89,7 +81,7 @@ final class PassesTest {
     }
 
     private static void hundredObservations() {
-        RangingStation x = withTones(6000, 5000, 4000, 3000, 2000, 1000);
+        RangingStation x = Check.withTones(6000, 5000, 4000, 3000, 2000, 1000);
         x.beginPass();
         for (int i = 0; i < 100; i++) {
             if (i == 60) {
@@ -111,7 +103,7 @@ final class PassesTest {
 
     // Promise 26
     private static void addSlip() {
-        RangingStation x = withTones(1000);
+        RangingStation x = Check.withTones(1000);
         Check.fails("26 no pass", STATE, () -> x.addSlip(1));
         Check.fails("26 too great without a pass", ARGUMENT, () -> x.addSlip(1001));
         x.beginPass();
@@ -134,7 +126,7 @@ final class PassesTest {
 
     // Promise 28
     private static void observationsOfPasses() {
-        RangingStation x = withTones(1000);
+        RangingStation x = Check.withTones(1000);
         Check.fails("28 none", INDEX, () -> x.observations(0));
         x.beginPass();
         Check.eq("28 empty", x.observations(0), 0);
@@ -153,7 +145,7 @@ final class PassesTest {
 
     // Promises 29 and 30
     private static void timesAndPasses() {
-        RangingStation x = withTones(1000);
+        RangingStation x = Check.withTones(1000);
         x.run(5);
         x.beginPass();
         x.observe();
@@ -180,7 +172,7 @@ final class PassesTest {
 
     // Promise 31
     private static void phase() {
-        RangingStation x = withTones(1000000, 10000, 1000);
+        RangingStation x = Check.withTones(1000000, 10000, 1000);
         x.setTruth(1234567, 0);
         x.beginPass();
         x.observe();
@@ -199,7 +191,7 @@ final class PassesTest {
     }
 
     private static void phaseAtTheEdges() {
-        RangingStation x = withTones(1000000000000L, 999999999999L, 1001);
+        RangingStation x = Check.withTones(1000000000000L, 999999999999L, 1001);
         x.setTruth(999999999999L, -10000000);
         x.beginPass();
         x.observe();
@@ -221,7 +213,7 @@ final class PassesTest {
     }
 
     private static void phaseWithNoise() {
-        RangingStation x = withTones(1000000, 1000);
+        RangingStation x = Check.withTones(1000000, 1000);
         x.setTruth(100000, 0);
         x.setNoise(30000);
         x.beginPass();
@@ -236,7 +228,7 @@ final class PassesTest {
     }
 
     private static void tonesOfAPass() {
-        RangingStation x = withTones(100000, 1000);
+        RangingStation x = Check.withTones(100000, 1000);
         x.setTruth(12345, 0);
         x.beginPass();
         x.observe();
@@ -255,7 +247,7 @@ final class PassesTest {
 
     // Promise 32
     private static void dopplerCount() {
-        RangingStation x = withTones(100000);
+        RangingStation x = Check.withTones(100000);
         x.setTruth(1050, 75);
         x.beginPass();
         x.observe();
@@ -283,7 +275,7 @@ final class PassesTest {
     }
 
     private static void dopplerCountBelowZero() {
-        RangingStation x = withTones(100000);
+        RangingStation x = Check.withTones(100000);
         x.setTruth(50, -60);
         x.setDopplerWavelength(10000);
         x.beginPass();
@@ -300,7 +292,7 @@ final class PassesTest {
 
     // Promise 33
     private static void distinctTimes() {
-        RangingStation x = withTones(1000);
+        RangingStation x = Check.withTones(1000);
         x.run(3);
         x.beginPass();
         Check.eq("33 none", x.distinctTimes(), 0);
@@ -315,7 +307,7 @@ final class PassesTest {
         x.observe();
         x.run(1);
         Check.eq("33 another", x.distinctTimes(), 2);
-        RangingStation y = withTones(1000);
+        RangingStation y = Check.withTones(1000);
         y.beginPass();
         for (int i = 0; i < 100; i++) {
             y.observe();

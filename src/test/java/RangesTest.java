@@ -17,14 +17,6 @@ final class RangesTest {
         Check.finish("RangesTest");
     }
 
-    private static RangingStation withTones(long... wavelengths) {
-        RangingStation x = new RangingStation();
-        for (long wavelength : wavelengths) {
-            x.addTone(wavelength);
-        }
-        return x;
-    }
-
     private static void observeAt(RangingStation x, long range) {
         x.setTruth(range, 0);
         x.beginPass();
@@ -34,7 +26,7 @@ final class RangesTest {
 
     // Promise 34
     private static void setAPriori() {
-        RangingStation x = withTones(1000);
+        RangingStation x = Check.withTones(1000);
         Check.eq("34 greatest", x.setAPriori(10000000000000L), 0);
         Check.eq("34 previous", x.setAPriori(0), 10000000000000L);
         Check.fails("34 too great", ARGUMENT, () -> x.setAPriori(10000000000001L));
@@ -46,7 +38,7 @@ final class RangesTest {
     }
 
     private static void nearestToTheAPrioriRange() {
-        RangingStation x = withTones(1000000);
+        RangingStation x = Check.withTones(1000000);
         observeAt(x, 3200000);
         observeAt(x, 0);
         observeAt(x, 500000);
@@ -66,7 +58,7 @@ final class RangesTest {
 
     // Promises 35 and 36
     private static void rangeAfter() {
-        RangingStation x = withTones(1000000, 10000, 1000);
+        RangingStation x = Check.withTones(1000000, 10000, 1000);
         observeAt(x, 1234567);
         Check.eq("35 tone 0", x.rangeAfter(0, 0), 234000);
         Check.eq("35 tone 1", x.rangeAfter(0, 1), 234560);
@@ -79,7 +71,7 @@ final class RangesTest {
     }
 
     private static void rangeAfterSixTones() {
-        RangingStation x = withTones(1000000000000L, 1000000000L, 100000000L, 1000000L, 10000L, 1000L);
+        RangingStation x = Check.withTones(1000000000000L, 1000000000L, 100000000L, 1000000L, 10000L, 1000L);
         observeAt(x, 9876443210987L);
         x.setAPriori(10000000000000L);
         Check.eq("35 six tones, 0", x.rangeAfter(0, 0), 9876000000000L);
@@ -93,7 +85,7 @@ final class RangesTest {
     }
 
     private static void rangeWithDelayEstimate() {
-        RangingStation x = withTones(1000000, 1000);
+        RangingStation x = Check.withTones(1000000, 1000);
         x.setDelay(0, 7277);
         observeAt(x, 100000);
         Check.eq("36 not calibrated", x.range(0), 107277);
@@ -112,7 +104,7 @@ final class RangesTest {
     }
 
     private static void rangeOfAnotherStation() {
-        RangingStation x = withTones(1000000);
+        RangingStation x = Check.withTones(1000000);
         x.setDelay(3, 20000);
         x.setStation(3);
         observeAt(x, 100000);
@@ -129,7 +121,7 @@ final class RangesTest {
     }
 
     private static void rangeRefused() {
-        RangingStation x = withTones(1000000, 1000);
+        RangingStation x = Check.withTones(1000000, 1000);
         Check.fails("36 no observations", INDEX, () -> x.range(0));
         observeAt(x, 5);
         Check.fails("36 observation 1", INDEX, () -> x.range(1));
@@ -143,7 +135,7 @@ final class RangesTest {
 
     // Promise 37
     private static void correction() {
-        RangingStation x = withTones(1000000, 10000, 1000);
+        RangingStation x = Check.withTones(1000000, 10000, 1000);
         observeAt(x, 1234567);
         observeAt(x, 5999600);
         x.setAPriori(77777777);
@@ -160,7 +152,7 @@ final class RangesTest {
 
     // Promise 38
     private static void isWeak() {
-        RangingStation x = withTones(1000000, 1000);
+        RangingStation x = Check.withTones(1000000, 1000);
         int[] rests = {0, 250, 251, 499, 500, 501, 749, 750, 999};
         int[] corrections = {0, 250, 251, 499, 500, -499, -251, -250, -1};
         for (int i = 0; i < rests.length; i++) {
@@ -177,7 +169,7 @@ final class RangesTest {
 
     // Promise 39
     private static void weakIn() {
-        RangingStation x = withTones(1000000, 1000);
+        RangingStation x = Check.withTones(1000000, 1000);
         Check.fails("39 no passes", INDEX, () -> x.weakIn(0, 0));
         x.setTruth(77000, 125);
         x.beginPass();

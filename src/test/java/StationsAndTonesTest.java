@@ -26,16 +26,8 @@ final class StationsAndTonesTest {
         Check.finish("StationsAndTonesTest");
     }
 
-    private static RangingStation withTones(long... wavelengths) {
-        RangingStation x = new RangingStation();
-        for (long wavelength : wavelengths) {
-            x.addTone(wavelength);
-        }
-        return x;
-    }
-
     private static RangingStation inPass() {
-        RangingStation x = withTones(100000, 1000);
+        RangingStation x = Check.withTones(100000, 1000);
         x.beginPass();
         return x;
     }
@@ -60,7 +52,7 @@ final class StationsAndTonesTest {
 
     // Promise 12
     private static void setStation() {
-        RangingStation x = withTones(100000);
+        RangingStation x = Check.withTones(100000);
         x.setDelay(9, 3000);
         Check.eq("12 last", x.setStation(9), 0);
         Check.eq("12 its delay", x.calibrate(1), 3000);
@@ -84,7 +76,7 @@ final class StationsAndTonesTest {
         Check.eq("13 least", x.addTone(1000), 3);
         Check.fails("13 not less than the least", ARGUMENT, () -> x.addTone(1000));
         Check.eq("15 three", x.toneCount(), 3);
-        RangingStation six = withTones(6000, 5000, 4000, 3000, 2000);
+        RangingStation six = Check.withTones(6000, 5000, 4000, 3000, 2000);
         Check.eq("13 the sixth", six.addTone(1001), 6);
         Check.fails("13 the seventh", STATE, () -> six.addTone(1000));
         Check.fails("13 the seventh, not less", ARGUMENT, () -> six.addTone(1001));
@@ -128,7 +120,7 @@ final class StationsAndTonesTest {
 
     // Promise 16
     private static void wavelength() {
-        RangingStation x = withTones(6000, 5000, 4000, 3000, 2000, 1000);
+        RangingStation x = Check.withTones(6000, 5000, 4000, 3000, 2000, 1000);
         for (int k = 0; k < 6; k++) {
             Check.eq("16 tone", x.wavelength(k), 6000 - 1000 * k);
         }
@@ -157,7 +149,7 @@ final class StationsAndTonesTest {
 
     // Promise 18
     private static void setSeed() {
-        RangingStation x = withTones(100000, 1000);
+        RangingStation x = Check.withTones(100000, 1000);
         Check.eq("18 least", x.setSeed(Integer.MIN_VALUE), 0);
         Check.eq("18 greatest", x.setSeed(Integer.MAX_VALUE), Integer.MIN_VALUE);
         Check.eq("18 previous", x.setSeed(7), Integer.MAX_VALUE);
@@ -175,7 +167,7 @@ final class StationsAndTonesTest {
 
     // Promise 19
     private static void setDopplerWavelength() {
-        RangingStation x = withTones(100000);
+        RangingStation x = Check.withTones(100000);
         Check.eq("19 least", x.setDopplerWavelength(1), 100);
         Check.eq("19 greatest", x.setDopplerWavelength(10000), 1);
         Check.fails("19 too great", ARGUMENT, () -> x.setDopplerWavelength(10001));
@@ -190,7 +182,7 @@ final class StationsAndTonesTest {
 
     // Promise 20
     private static void calibrate() {
-        RangingStation x = withTones(100000);
+        RangingStation x = Check.withTones(100000);
         x.setTruth(54321, 9);
         x.setDelay(0, 5555);
         Check.eq("20 the range is 0", x.calibrate(1), 5500);
@@ -222,7 +214,7 @@ final class StationsAndTonesTest {
     }
 
     private static void calibrateWithNoise() {
-        RangingStation x = withTones(1000000);
+        RangingStation x = Check.withTones(1000000);
         x.setDelay(0, 100000);
         x.setNoise(30000);
         // The noises are -30000 and 24236, the estimates 70000 and 124000.
@@ -232,12 +224,12 @@ final class StationsAndTonesTest {
     }
 
     private static void calibrateRoundsDown() {
-        RangingStation x = withTones(1000);
+        RangingStation x = Check.withTones(1000);
         x.setNoise(500);
         x.setSeed(1);
         // 322, -12 and -397: 322, 988 and 603
         Check.eq("20 1913 / 3", x.calibrate(3), 637);
-        RangingStation y = withTones(10000, 1000);
+        RangingStation y = Check.withTones(10000, 1000);
         y.setNoise(100);
         y.setSeed(2);
         // 9, 4, 94 and -45: the estimates are 4 and -45, and -41 / 2 rounds down.
@@ -246,7 +238,7 @@ final class StationsAndTonesTest {
     }
 
     private static void calibrateResolves() {
-        RangingStation x = withTones(10000, 1000);
+        RangingStation x = Check.withTones(10000, 1000);
         x.setNoise(500);
         x.setSeed(1);
         // 322 and -12: phases 32 and 988, 320 - 988 is nearest to -1 * 1000
@@ -259,7 +251,7 @@ final class StationsAndTonesTest {
 
     // Promise 21
     private static void delayEstimate() {
-        RangingStation x = withTones(100000);
+        RangingStation x = Check.withTones(100000);
         x.setDelay(9, 4400);
         x.setStation(9);
         Check.fails("21 not yet", NoSuchElementException.class, () -> x.delayEstimate(9));
@@ -276,7 +268,7 @@ final class StationsAndTonesTest {
 
     // Promise 22
     private static void calibratedStation() {
-        RangingStation x = withTones(100000);
+        RangingStation x = Check.withTones(100000);
         int[] order = {3, 0, 9, 1, 8, 2, 7, 4, 6, 5};
         for (int i = 0; i < 10; i++) {
             int k = i;
