@@ -1,17 +1,16 @@
-import java.lang.reflect.InvocationTargetException;
 import java.lang.reflect.Method;
 import java.util.ArrayList;
-import java.util.Arrays;
-import java.util.Comparator;
+import java.util.Collections;
 import java.util.List;
 import java.util.Random;
 
 /**
- * Runs of 512 calls with arguments drawn from a fixed seed, each answer compared with that of Model, and after
- * every call that throws, and now and then besides, all that can be asked of both.
+ * Runs of 512 calls with arguments drawn from fixed seeds, each answer compared with that of Model: first calls of all
+ * kinds, so many as are drawn, then as many as are left of those that ask for all that is there and one more at either
+ * end, in a drawn order.
  */
 final class RandomRunsTest {
-    private static final int RUNS = 120;
+    private static final int RUNS = 1500;
     private static final int CALLS = 512;
     private static final long[] EDGES = {
         0, 1, -1, 2, 9, 10, 50, 51, 100, 999, 1000, 1001, -1000, -1001, 10000, 10001, -10000, -10001, 30000, 30001,
@@ -28,33 +27,26 @@ final class RandomRunsTest {
         random = new Random(seed);
     }
 
-    public static void main(String[] args) throws Exception {
-        List<Method> face = new ArrayList<>();
-        for (Method method : RangingStation.class.getDeclaredMethods()) {
-            if (java.lang.reflect.Modifier.isPublic(method.getModifiers())) {
-                face.add(method);
-            }
-        }
-        face.sort(Comparator.comparing(Method::getName));
+    public static void main(String[] args) {
         for (int i = 0; i < RUNS; i++) {
             RandomRunsTest run = new RandomRunsTest(i);
-            run.play(face);
+            run.play();
             Check.note(run.right, "run " + i, run.told.toString(), "the answer of Model");
         }
         Check.finish("RandomRunsTest");
     }
 
-    private void play(List<Method> face) throws Exception {
-        call(face, "addTone", random.nextBoolean() ? 1000000L : tone());
-        for (int i = 1; i < CALLS && right; i++) {
-            Method method = pick(face);
-            boolean threw = call(face, method.getName(), arguments(method));
-            if (threw && i % 4 == 0 || i % 64 == 0) {
-                askAll(face);
-            }
+    private void play() {
+        int changing = 50 + random.nextInt(CALLS - 100);
+        call("addTone " + (random.nextBoolean() ? 1000000 : tone()));
+        for (int i = 1; i < changing && right; i++) {
+            Method method = pick(Calls.face());
+            call(method.getName() + arguments(method));
         }
-        if (right) {
-            askAll(face);
+        List<String> asked = all();
+        Collections.shuffle(asked, random);
+        for (int i = changing; i < CALLS && i - changing < asked.size() && right; i++) {
+            call(asked.get(i - changing));
         }
     }
 
@@ -66,36 +58,27 @@ final class RandomRunsTest {
         if (kind == 0) {
             Method any = face.get(random.nextInt(face.size()));
             boolean rare = any.getName().equals("removeTone") || any.getName().equals("clearScript");
-            return rare && random.nextInt(3) > 0 ? named(face, "addSegment") : any;
+            return rare && random.nextInt(3) > 0 ? Calls.named(RangingStation.class, "addSegment") : any;
         }
         if (kind == 1 && random.nextInt(4) == 0) {
-            return named(face, "endPass");
+            return Calls.named(RangingStation.class, "endPass");
         }
         String[] names = model.isRunning() ? often : between;
-        return named(face, names[random.nextInt(names.length)]);
-    }
-
-    private static Method named(List<Method> face, String name) {
-        for (Method method : face) {
-            if (method.getName().equals(name)) {
-                return method;
-            }
-        }
-        throw new IllegalStateException(name);
+        return Calls.named(RangingStation.class, names[random.nextInt(names.length)]);
     }
 
     private long tone() {
         return (long) Math.pow(10, 3 + random.nextInt(10)) - (random.nextBoolean() ? random.nextInt(300) : 0);
     }
 
-    private Object[] arguments(Method method) {
+    private String arguments(Method method) {
+        StringBuilder told = new StringBuilder();
         Class<?>[] types = method.getParameterTypes();
-        Object[] values = new Object[types.length];
         for (int i = 0; i < types.length; i++) {
             long value = random.nextInt(12) == 0 ? EDGES[random.nextInt(EDGES.length)] : ordinary(method.getName(), i);
-            values[i] = types[i] == int.class ? (Object) (int) value : (Object) value;
+            told.append(' ').append(types[i] == int.class ? (int) value : value);
         }
-        return values;
+        return told.toString();
     }
 
     private long ordinary(String name, int place) {
@@ -134,66 +117,37 @@ final class RandomRunsTest {
         }
     }
 
-    private boolean call(List<Method> face, String name, Object... values) throws Exception {
-        Method method = named(face, name);
-        String got = answer(method, station, values);
-        String due = answer(Model.class.getMethod(name, method.getParameterTypes()), model, values);
+    private void call(String call) {
+        String got = Calls.told(station, call);
+        String due = Calls.told(model, call);
         if (right && !got.equals(due)) {
             right = false;
-            told.append(name).append(Arrays.toString(values)).append(" answered ").append(got);
-            told.append(", Model ").append(due);
-        }
-        return due.startsWith("throws");
-    }
-
-    private static String answer(Method method, Object of, Object[] values) throws Exception {
-        try {
-            return String.valueOf(method.invoke(of, values));
-        } catch (InvocationTargetException e) {
-            return "throws " + e.getCause().getClass().getName();
+            told.append(call).append(" answered ").append(got).append(", Model ").append(due);
         }
     }
 
-    /** Asks each method that changes nothing, for all that is there and one more at either end. */
-    private void askAll(List<Method> face) throws Exception {
-        for (String name : new String[] {"time", "trueRange", "trueRate", "toneCount", "passCount", "distinctTimes",
-            "longestChain"}) {
-            call(face, name);
-        }
-        call(face, "trueRangeIn", 50);
+    private List<String> all() {
+        List<String> all = new ArrayList<>(List.of("time", "trueRange", "trueRate", "toneCount", "passCount",
+            "distinctTimes", "longestChain", "trueRangeIn 50", "trueRangeIn 1000", "closestApproach 1000"));
         for (int i = -1; i <= 10; i++) {
-            call(face, "wavelength", i);
-            call(face, "delayEstimate", i);
-            call(face, "calibratedStation", i);
+            addAll(all, " " + i, "wavelength", "delayEstimate", "calibratedStation");
         }
-        askPasses(face);
-        askObservations(face);
-    }
-
-    private void askPasses(List<Method> face) throws Exception {
         for (int p = -1; p <= model.passCount(); p++) {
-            for (String name : new String[] {"observations", "slips", "meanInnovation", "varianceInnovation", "lineRate",
-                "lineOffset", "ambiguity"}) {
-                call(face, name, p);
-            }
-            for (int k = -1; k <= 6; k++) {
-                call(face, "weakIn", p, k);
-            }
+            addAll(all, " " + p, "observations", "slips", "meanInnovation", "varianceInnovation", "lineRate", "lineOffset",
+                "ambiguity", "weakIn");
         }
+        for (int o = -1; o <= model.seenInAll(); o++) {
+            addAll(all, " " + o, "observationTime", "observationPass", "dopplerCount", "range", "predicted", "innovation",
+                "smoothed", "residual", "phase", "rangeAfter", "correction", "isWeak");
+        }
+        return all;
     }
 
-    private void askObservations(List<Method> face) throws Exception {
-        for (int o = -1; o <= model.seenInAll(); o += 1 + random.nextInt(4)) {
-            for (String name : new String[] {"observationTime", "observationPass", "dopplerCount", "range", "predicted",
-                "innovation", "smoothed", "residual"}) {
-                call(face, name, o);
-            }
-            for (int k = -1; k <= 6; k++) {
-                call(face, "phase", o, k);
-                call(face, "rangeAfter", o, k);
-                call(face, "correction", o, k);
-                call(face, "isWeak", o, k);
-            }
+    /** A method that takes a tone too is given one of 0 to 6. */
+    private void addAll(List<String> all, String index, String... names) {
+        for (String name : names) {
+            boolean takesTone = Calls.named(RangingStation.class, name).getParameterCount() == 2;
+            all.add(name + index + (takesTone ? " " + (random.nextInt(8) - 1) : ""));
         }
     }
 }
