@@ -206,6 +206,7 @@ final class MotionTest {
         Check.eq("5 range negative", y.trueRange(), -9999995 - 5 - 10000000 + 5000);
     }
 
+    // These are more than 512 calls, after which all answers are free: the limit is kept all the same.
     private static void greatestTime() {
         RangingStation x = at(0, 1);
         for (int i = 0; i < 999; i++) {

@@ -10,7 +10,8 @@ import java.util.List;
  * Every call that is refused must leave no trace.
  */
 final class Rows {
-    /** A trace takes some 200 of the 512 calls that an object has. */
+    private static final int MOST_CALLS = 512;
+    /** A trace takes some 200 of the calls that an object has. */
     private static final int MOST_BEFORE_A_TRACE = 300;
 
     private Rows() {
@@ -19,7 +20,9 @@ final class Rows {
     static void play(String what, String... rows) {
         List<String> calls = new ArrayList<>();
         RangingStation x = new RangingStation();
-        for (String row : expanded(rows)) {
+        List<String> all = expanded(rows);
+        Check.yes(what + ": no more than 512 calls", all.size() <= MOST_CALLS);
+        for (String row : all) {
             String call = row.split(" [=!] ")[0];
             String got = Calls.told(x, call);
             String due = due(row);
@@ -31,7 +34,6 @@ final class Rows {
                 calls.add(call);
             }
         }
-        Check.yes(what + ": no more than 512 calls", calls.size() <= 512);
     }
 
     /** Null if any answer is right. */
